@@ -57,7 +57,7 @@ public final class AnswersTest {
         for (int day = 0; day < 200; day++) {
             CHECKS.due(weekdays[day % 7] && day != 7, x.isCharging(day));
         }
-        for (int day = 999990; day <= 1000000; day++) {
+        for (int day = 200; day <= 1000000; day++) {
             CHECKS.due(weekdays[day % 7], x.isCharging(day));
         }
         for (int day : new int[] {-1, 1000001, -7, MIN, MAX}) {

@@ -12,9 +12,11 @@ public final class RulesTest {
         manyHolidays();
         addGap();
         addedGapsCountFromNowOn();
+        sixGaps();
         clearGaps();
         clearedGapsCountFromNowOn();
         setTimes();
+        firstTimes();
         timesCountFromNowOn();
         CHECKS.end();
     }
@@ -169,6 +171,24 @@ public final class RulesTest {
         CHECKS.due(CollectionsEngine.GRACE, x.stateOf(0));
     }
 
+    private static void sixGaps() {
+        CHECKS.begin("4 addGap, six of them");
+        CollectionsEngine x = new CollectionsEngine();
+        x.setWeekday(5, true);
+        x.setWeekday(6, true);
+        for (int days : new int[] {30, 1, 2, 4, 3, 29}) {
+            x.addGap(CollectionsEngine.BLOCKED, days);
+        }
+        x.bill(0, 5);
+        x.pass(1);
+        for (int next : new int[] {31, 32, 34, 38, 41, 70}) {
+            CHECKS.due(CollectionsEngine.OPEN, x.outcome(0, CollectionsEngine.BLOCKED));
+            CHECKS.due(next, x.waitsFor(0));
+            x.pass(next - x.today());
+        }
+        CHECKS.due(CollectionsEngine.GRACE, x.outcome(0, CollectionsEngine.BLOCKED));
+    }
+
     private static void clearGaps() {
         CHECKS.begin("5 clearGaps");
         CollectionsEngine x = new CollectionsEngine();
@@ -223,6 +243,21 @@ public final class RulesTest {
         x.pass(60);
         CHECKS.due(62, x.waitsFor(0));
         CHECKS.due(60, x.setTimes(60, 90));
+    }
+
+    private static void firstTimes() {
+        CHECKS.begin("6 times at first");
+        CollectionsEngine x = Runs.tried(1);
+        x.outcome(0, CollectionsEngine.BLOCKED);
+        CHECKS.due(11, x.waitsFor(0));
+        x.pass(10);
+        CHECKS.due(CollectionsEngine.OVERDUE, x.stateOf(0));
+        CHECKS.due(41, x.waitsFor(0));
+        x.pass(29);
+        CHECKS.due(CollectionsEngine.OVERDUE, x.stateOf(0));
+        x.pass(1);
+        CHECKS.due(CollectionsEngine.WRITTEN_OFF, x.stateOf(0));
+        CHECKS.due(41005, x.event(0));
     }
 
     private static void timesCountFromNowOn() {
