@@ -1,393 +1,401 @@
 /** Promises 7 to 11: making bills, telling outcomes, paying, promising, and letting days pass. */
-public final class BillsTest {
-    private static final int MIN = Integer.MIN_VALUE;
-    private static final int MAX = Integer.MAX_VALUE;
+public final class BillsTest implements Names {
     private static final Checks CHECKS = new Checks();
 
     public static void main(String[] args) {
-        bill();
-        billOnAWeekend();
-        thirtyBills();
-        outcome();
-        firstGaps();
-        outcomeRefused();
-        pay();
-        payBehindAWriteOff();
-        payRefused();
-        promise();
-        promiseBrokenInEachState();
-        promiseKept();
-        twoPromises();
-        promiseRefused();
-        pass();
-        passGivesErrorToTheUnanswered();
-        passInOrder();
-        passRefused();
-        CHECKS.end();
+        CHECKS.run(BillsTest.class);
     }
 
-    private static void bill() {
-        CHECKS.begin("7 bill");
-        CollectionsEngine x = new CollectionsEngine();
-        CHECKS.due(0, x.bill(0, 1));
-        CHECKS.due(1, x.bill(7, 9999));
+    // ---- promise 7, bill
+
+    @Sentence(of = "Promise 7", says = "Makes a bill.")
+    static void newBill() {
+        CollectionsEngine x = Runs.made(1);
+        x.bill(3, 77);
         CHECKS.due(2, x.bills());
-        CHECKS.due(CollectionsEngine.OPEN, x.stateOf(1));
-        CHECKS.due(9999, x.left(1));
-        CHECKS.due(1, x.left(0));
+        CHECKS.due(OPEN, x.stateOf(1));
+        CHECKS.due(77, x.left(1));
+        CHECKS.due(0, x.tries(1));
+        CHECKS.due(0, x.broken(1));
+        for (int reason : Checks.range(NO_MONEY, ERROR)) {
+            CHECKS.due(0, x.failures(1, reason));
+        }
         CHECKS.due(1, x.waitsFor(1));
-        CHECKS.due(9999, x.leftIn(7, CollectionsEngine.OPEN));
+        CHECKS.due(177, x.billed());
+        CHECKS.due(0, x.paid());
+        CHECKS.due(77, x.leftIn(3, OPEN));
         CHECKS.due(2, x.events());
         CHECKS.due(10, x.event(0));
+        CHECKS.due(100, x.left(0));
+    }
+
+    @Sentence(of = "Promise 7", says = {"`account`: 0 to 7",
+        "Throws `IndexOutOfBoundsException` if there is no such account"})
+    static void accountsForBills() {
+        for (int account : Checks.range(0, 7)) {
+            CollectionsEngine x = new CollectionsEngine();
+            CHECKS.due(0, x.bill(account, 9));
+            for (int other : Checks.range(0, 7)) {
+                CHECKS.due(other == account ? 9 : 0, x.leftIn(other, OPEN));
+            }
+        }
         for (int account : new int[] {-1, 8, MIN, MAX}) {
-            CHECKS.refused(x, Checks.NO_INDEX, () -> x.bill(account, 5));
-            CHECKS.refused(x, Checks.NO_INDEX, () -> x.bill(account, 0));
+            CHECKS.refused(CollectionsEngine::new, Checks.NO_INDEX, x -> x.bill(account, 9));
+        }
+    }
+
+    @Sentence(of = "Promise 7", says = {"`amount`: 1 to 9999",
+        "Throws `IllegalArgumentException` if amount is out of range"})
+    static void amountsOfBills() {
+        for (int amount : new int[] {1, 2, 9998, 9999}) {
+            CollectionsEngine x = new CollectionsEngine();
+            CHECKS.due(0, x.bill(0, amount));
+            CHECKS.due(amount, x.left(0));
+            CHECKS.due(amount, x.billed());
         }
         for (int amount : new int[] {0, 10000, -1, MIN, MAX}) {
-            CHECKS.refused(x, Checks.NO_ARGUMENT, () -> x.bill(3, amount));
+            CHECKS.refused(CollectionsEngine::new, Checks.NO_ARGUMENT, x -> x.bill(0, amount));
+            CHECKS.refused(() -> Runs.made(29), Checks.NO_ARGUMENT, x -> x.bill(7, amount));
         }
-        CHECKS.due(2, x.bill(3, 5));
     }
 
-    private static void billOnAWeekend() {
-        CHECKS.begin("7 bill on other days");
+    @Sentence(of = "Promise 7", says = {"Returns its number.", "Throws `IllegalStateException` if there are 30 bills"})
+    static void thirtyBills() {
         CollectionsEngine x = new CollectionsEngine();
-        x.pass(4);
-        x.bill(0, 1);
-        CHECKS.due(7, x.waitsFor(0));
-        x.addHoliday(7);
-        x.addHoliday(8);
-        x.pass(1);
-        x.bill(0, 1);
-        CHECKS.due(9, x.waitsFor(1));
-        CHECKS.due(7, x.waitsFor(0));
-        CHECKS.due(5010, x.event(0));
-    }
-
-    private static void thirtyBills() {
-        CHECKS.begin("7 bill, thirty of them");
-        CollectionsEngine x = new CollectionsEngine();
-        for (int bill = 0; bill < 30; bill++) {
-            CHECKS.due(bill, x.bill(bill % 8, bill + 1));
+        for (int number : Checks.range(0, 29)) {
+            CHECKS.due(number, x.bill(number % 8, 9999));
         }
-        CHECKS.refused(x, Checks.NO_STATE, () -> x.bill(0, 1));
-        CHECKS.refused(x, Checks.NO_ARGUMENT, () -> x.bill(0, 0));
-        CHECKS.refused(x, Checks.NO_INDEX, () -> x.bill(8, 0));
-        CHECKS.due(30, x.pass(1));
-        x.outcome(29, CollectionsEngine.SUCCESS);
-        CHECKS.refused(x, Checks.NO_STATE, () -> x.bill(0, 1));
         CHECKS.due(30, x.bills());
-        CHECKS.due(465, x.billed());
+        CHECKS.due(30 * 9999, x.billed());
+        CHECKS.refused(() -> Runs.made(30), Checks.NO_STATE, each -> each.bill(0, 1));
+        CHECKS.refused(() -> Runs.made(30), Checks.NO_STATE, each -> each.bill(7, 9999));
+        CHECKS.refused(() -> Runs.writtenOff(0), Checks.NO_STATE, each -> each.bill(0, 1));
+        CHECKS.refused(() -> Runs.writtenOff(30), Checks.NO_STATE, each -> each.bill(0, 1));
+        CHECKS.answers(29, () -> Runs.made(29), each -> each.bill(0, 1));
     }
 
-    private static void outcome() {
-        CHECKS.begin("8 outcome");
-        CollectionsEngine x = Runs.tried(5);
-        CHECKS.due(CollectionsEngine.PAID, x.outcome(0, CollectionsEngine.SUCCESS));
-        CHECKS.due(0, x.left(0));
-        CHECKS.due(100, x.paid());
-        CHECKS.due(CollectionsEngine.OPEN, x.outcome(1, CollectionsEngine.NO_MONEY));
-        CHECKS.due(4, x.waitsFor(1));
-        CHECKS.due(CollectionsEngine.OPEN, x.outcome(2, CollectionsEngine.EXPIRED));
-        CHECKS.due(8, x.waitsFor(2));
-        CHECKS.due(CollectionsEngine.GRACE, x.outcome(3, CollectionsEngine.BLOCKED));
-        CHECKS.due(11, x.waitsFor(3));
-        CHECKS.due(CollectionsEngine.OPEN, x.outcome(4, CollectionsEngine.ERROR));
-        CHECKS.due(2, x.waitsFor(4));
-        CHECKS.due(1040, x.event(0));
-        CHECKS.due(1006, x.event(4));
-        CHECKS.due(100, x.paid());
-        CHECKS.due(1, x.pass(1));
-        x.addHoliday(3);
-        CHECKS.due(CollectionsEngine.OPEN, x.outcome(4, CollectionsEngine.NO_MONEY));
-        CHECKS.due(7, x.waitsFor(4));
-    }
+    // ---- promise 8, outcome
 
-    /** The row of a reason counts its own failures alone. */
-    private static void firstGaps() {
-        CHECKS.begin("8 outcome, first gaps");
-        int[][] gaps = {{}, {3, 5, 7}, {7, 7}, {}, {1, 1, 1, 1}};
-        for (int reason = CollectionsEngine.NO_MONEY; reason <= CollectionsEngine.ERROR; reason++) {
-            CollectionsEngine x = new CollectionsEngine();
-            x.setWeekday(5, true);
-            x.setWeekday(6, true);
-            x.bill(0, 5);
-            x.pass(1);
-            int other = reason == CollectionsEngine.ERROR ? CollectionsEngine.NO_MONEY : CollectionsEngine.ERROR;
-            x.outcome(0, other);
-            x.pass(gaps[other][0]);
-            for (int gap : gaps[reason]) {
-                CHECKS.due(CollectionsEngine.OPEN, x.outcome(0, reason));
-                CHECKS.due(x.today() + gap, x.waitsFor(0));
-                CHECKS.due(1, x.pass(gap));
+    @Sentence(of = "Promise 8", says = {"Tells the outcome of a charge.", "Returns the state of the bill then."})
+    static void outcomeOfEachKind() {
+        int[] states = {PAID, OPEN, OPEN, GRACE, OPEN};
+        int[] waits = {NONE, 4, 8, 11, 2};
+        for (int outcome : Checks.range(SUCCESS, ERROR)) {
+            CollectionsEngine x = Runs.tried(2);
+            CHECKS.due(states[outcome], x.outcome(0, outcome));
+            CHECKS.due(states[outcome], x.stateOf(0));
+            CHECKS.due(waits[outcome], x.waitsFor(0));
+            CHECKS.due(TRYING, x.stateOf(1));
+            CHECKS.due(outcome == SUCCESS ? 0 : 100, x.left(0));
+            CHECKS.due(outcome == SUCCESS ? 100 : 0, x.paid());
+            CHECKS.due(1, x.tries(0));
+            for (int reason : Checks.range(NO_MONEY, ERROR)) {
+                CHECKS.due(reason == outcome ? 1 : 0, x.failures(0, reason));
+                CHECKS.due(0, x.failures(1, reason));
             }
-            CHECKS.due(CollectionsEngine.GRACE, x.outcome(0, reason));
-            CHECKS.due(x.today() + 10, x.waitsFor(0));
-            CHECKS.due(gaps[reason].length + 1, x.failures(0, reason));
-            CHECKS.due(gaps[reason].length + 2, x.tries(0));
+            CHECKS.due(5, x.events());
+            CHECKS.due(1000 + states[outcome], x.event(0));
         }
     }
 
-    private static void outcomeRefused() {
-        CHECKS.begin("8 outcome, refused");
-        CollectionsEngine x = Runs.states();
-        for (int bill : new int[] {-1, 7, 30, MIN, MAX}) {
-            CHECKS.refused(x, Checks.NO_INDEX, () -> x.outcome(bill, CollectionsEngine.SUCCESS));
-            CHECKS.refused(x, Checks.NO_INDEX, () -> x.outcome(bill, 5));
+    @Sentence(of = "Promise 8", says = {"`bill`: a bill",
+        "Throws `IndexOutOfBoundsException` if there is no such bill"})
+    static void billsForOutcomes() {
+        CHECKS.takesEachBill((x, bill) -> x.outcome(bill, SUCCESS));
+        CHECKS.takesEachBill((x, bill) -> x.outcome(bill, ERROR));
+    }
+
+    @Sentence(of = "Promise 8", says = {"`outcome`: SUCCESS to ERROR",
+        "Throws `IllegalArgumentException` if outcome is out of range"})
+    static void outcomesOutOfRange() {
+        for (int outcome : Checks.range(SUCCESS, ERROR)) {
+            CHECKS.answers(false, () -> Runs.tried(1), x -> x.outcome(0, outcome) == TRYING);
         }
-        for (int outcome : new int[] {-1, 5, MIN, MAX}) {
-            CHECKS.refused(x, Checks.NO_ARGUMENT, () -> x.outcome(CollectionsEngine.TRYING, outcome));
-            CHECKS.refused(x, Checks.NO_ARGUMENT, () -> x.outcome(CollectionsEngine.OPEN, outcome));
+        for (int outcome : new int[] {SUCCESS - 1, ERROR + 1, 6, MIN, MAX}) {
+            CHECKS.refused(() -> Runs.tried(1), Checks.NO_ARGUMENT, x -> x.outcome(0, outcome));
         }
-        for (int state = CollectionsEngine.OPEN; state <= CollectionsEngine.PAID; state++) {
-            int bill = state;
-            CHECKS.due(state, x.stateOf(bill));
-            if (state != CollectionsEngine.TRYING) {
-                CHECKS.refused(x, Checks.NO_STATE, () -> x.outcome(bill, CollectionsEngine.SUCCESS));
-                CHECKS.refused(x, Checks.NO_STATE, () -> x.outcome(bill, CollectionsEngine.ERROR));
+    }
+
+    @Sentence(of = "Promise 8", says = "Throws `IllegalStateException` if the bill is not TRYING")
+    static void outcomeOfNoCharge() {
+        for (int bill : new int[] {OPEN, GRACE, OVERDUE, PROMISED, WRITTEN_OFF, PAID}) {
+            for (int outcome : Checks.range(SUCCESS, ERROR)) {
+                CHECKS.refused(Runs::states, Checks.NO_STATE, x -> x.outcome(bill, outcome));
             }
         }
+        CHECKS.answers(PAID, Runs::states, x -> x.outcome(TRYING, SUCCESS));
+        CHECKS.refused(() -> Runs.made(1), Checks.NO_STATE, x -> x.outcome(0, SUCCESS));
     }
 
-    private static void pay() {
-        CHECKS.begin("9 pay");
-        CollectionsEngine x = Runs.states();
-        int[] payable = {CollectionsEngine.OPEN, CollectionsEngine.GRACE, CollectionsEngine.OVERDUE,
-            CollectionsEngine.PROMISED, CollectionsEngine.WRITTEN_OFF};
-        int events = x.events();
-        int paid = x.paid();
-        for (int bill : payable) {
+    @Sentence(of = "Promise 8", says = "Throws `IllegalStateException` if the bill is not TRYING")
+    static void outcomeIsToldOnce() {
+        for (int outcome : Checks.range(SUCCESS, ERROR)) {
+            Checks.Maker told = () -> {
+                CollectionsEngine x = Runs.tried(1);
+                x.outcome(0, outcome);
+                return x;
+            };
+            CHECKS.refused(told, Checks.NO_STATE, x -> x.outcome(0, SUCCESS));
+            CHECKS.refused(told, Checks.NO_STATE, x -> x.outcome(0, outcome));
+        }
+    }
+
+    // ---- promise 9, pay
+
+    private static final int[] PAYABLE = {OPEN, GRACE, OVERDUE, PROMISED, WRITTEN_OFF};
+
+    @Sentence(of = "Promise 9", says = {"Pays some of a bill by hand.", "Returns what is left to pay then."})
+    static void payInEachState() {
+        for (int bill : PAYABLE) {
+            CollectionsEngine x = Runs.states();
+            int events = x.events();
             int waits = x.waitsFor(bill);
             CHECKS.due(60 + bill, x.pay(bill, 40));
-            CHECKS.due(bill, x.stateOf(bill));
-            CHECKS.due(60 + bill, x.left(bill));
-            CHECKS.due(waits, x.waitsFor(bill));
             CHECKS.due(1, x.pay(bill, 59 + bill));
+            CHECKS.due(1, x.left(bill));
+            CHECKS.due(bill, x.stateOf(bill));
+            CHECKS.due(waits, x.waitsFor(bill));
             CHECKS.due(events, x.events());
-            CHECKS.refused(x, Checks.NO_STATE, () -> x.pay(bill, 2));
             CHECKS.due(0, x.pay(bill, 1));
-            CHECKS.due(CollectionsEngine.PAID, x.stateOf(bill));
-            CHECKS.due(CollectionsEngine.NONE, x.waitsFor(bill));
-            CHECKS.due(++events, x.events());
-            CHECKS.due(paid += 100 + bill, x.paid());
-            CHECKS.due(3000 + 10 * bill + CollectionsEngine.PAID, x.event(0));
-        }
-        CHECKS.due(105, x.broughtBack());
-        x.pass(60);
-        x.pass(60);
-        for (int bill : payable) {
-            CHECKS.due(CollectionsEngine.PAID, x.stateOf(bill));
+            CHECKS.due(0, x.left(bill));
+            CHECKS.due(PAID, x.stateOf(bill));
+            CHECKS.due(NONE, x.waitsFor(bill));
+            CHECKS.due(events + 1, x.events());
+            CHECKS.due(3000 + 10 * bill + PAID, x.event(0));
+            CHECKS.due(106 + 100 + bill, x.paid());
+            CHECKS.due(bill == WRITTEN_OFF ? 105 : 0, x.broughtBack());
         }
     }
 
-    private static void payBehindAWriteOff() {
-        CHECKS.begin("9 pay behind a write-off");
-        CollectionsEngine x = Runs.states();
-        x.pay(CollectionsEngine.WRITTEN_OFF, 5);
-        CHECKS.due(CollectionsEngine.WRITTEN_OFF, x.stateOf(CollectionsEngine.WRITTEN_OFF));
-        CHECKS.due(CollectionsEngine.CUT, x.service(1));
-        x.pay(CollectionsEngine.WRITTEN_OFF, 100);
-        CHECKS.due(CollectionsEngine.CUT, x.service(1));
-        x.pay(CollectionsEngine.OVERDUE, 103);
-        CHECKS.due(CollectionsEngine.FULL, x.service(1));
-        CHECKS.due(105, x.writtenOff());
-        CHECKS.due(105, x.broughtBack());
-    }
-
-    private static void payRefused() {
-        CHECKS.begin("9 pay, refused");
-        CollectionsEngine x = Runs.states();
-        for (int bill : new int[] {-1, 7, 30, MIN, MAX}) {
-            CHECKS.refused(x, Checks.NO_INDEX, () -> x.pay(bill, 1));
-            CHECKS.refused(x, Checks.NO_INDEX, () -> x.pay(bill, 0));
-        }
-        for (int amount : new int[] {0, -1, 10000, MIN, MAX}) {
-            CHECKS.refused(x, Checks.NO_ARGUMENT, () -> x.pay(CollectionsEngine.OPEN, amount));
-            CHECKS.refused(x, Checks.NO_ARGUMENT, () -> x.pay(CollectionsEngine.PAID, amount));
-        }
-        for (int amount : new int[] {1, 101, 9999}) {
-            CHECKS.refused(x, Checks.NO_STATE, () -> x.pay(CollectionsEngine.TRYING, amount));
-            CHECKS.refused(x, Checks.NO_STATE, () -> x.pay(CollectionsEngine.PAID, amount));
-        }
-        for (int amount : new int[] {101, 9999}) {
-            CHECKS.refused(x, Checks.NO_STATE, () -> x.pay(CollectionsEngine.OPEN, amount));
+    @Sentence(of = "Promise 9", says = {"`bill`: a bill",
+        "Throws `IndexOutOfBoundsException` if there is no such bill"})
+    static void billsForPayments() {
+        CHECKS.takesEachBill((x, bill) -> x.pay(bill, 1));
+        for (int bill : new int[] {0, 29}) {
+            CHECKS.answers(99, () -> Runs.made(30), x -> x.pay(bill, 1));
         }
     }
 
-    private static void promise() {
-        CHECKS.begin("10 promise");
-        CollectionsEngine x = Runs.states();
-        int[] holdable = {CollectionsEngine.OPEN, CollectionsEngine.GRACE, CollectionsEngine.OVERDUE};
-        for (int bill : holdable) {
-            CHECKS.due(33 - bill, x.promise(bill, 30 - bill));
-            CHECKS.due(CollectionsEngine.PROMISED, x.stateOf(bill));
-            CHECKS.due(33 - bill, x.waitsFor(bill));
-            CHECKS.due(3000 + 10 * bill + CollectionsEngine.PROMISED, x.event(0));
+    @Sentence(of = "Promise 9", says = {"`amount`: 1 to 9999",
+        "Throws `IllegalArgumentException` if amount is out of range"})
+    static void amountsOfPayments() {
+        Checks.Maker maker = () -> {
+            CollectionsEngine x = new CollectionsEngine();
+            x.bill(0, 9999);
+            return x;
+        };
+        for (int amount : new int[] {1, 2, 9998, 9999}) {
+            CHECKS.answers(9999 - amount, maker, x -> x.pay(0, amount));
+        }
+        for (int amount : new int[] {0, 10000, -1, MIN, MAX}) {
+            CHECKS.refused(maker, Checks.NO_ARGUMENT, x -> x.pay(0, amount));
+        }
+    }
+
+    @Sentence(of = "Promise 9", says =
+        "Throws `IllegalStateException` if the bill is TRYING or PAID, or amount is more than what is left")
+    static void paymentsThatCannotBe() {
+        for (int bill : new int[] {TRYING, PAID}) {
+            for (int amount : new int[] {1, 101, 9999}) {
+                CHECKS.refused(Runs::states, Checks.NO_STATE, x -> x.pay(bill, amount));
+            }
+        }
+        for (int bill : PAYABLE) {
+            CHECKS.answers(1, Runs::states, x -> x.pay(bill, 99 + bill));
+            CHECKS.answers(0, Runs::states, x -> x.pay(bill, 100 + bill));
+            for (int amount : new int[] {101 + bill, 9999}) {
+                CHECKS.refused(Runs::states, Checks.NO_STATE, x -> x.pay(bill, amount));
+            }
+            Checks.Maker oneLeft = () -> {
+                CollectionsEngine x = Runs.states();
+                x.pay(bill, 99 + bill);
+                return x;
+            };
+            CHECKS.answers(0, oneLeft, x -> x.pay(bill, 1));
+            CHECKS.refused(oneLeft, Checks.NO_STATE, x -> x.pay(bill, 2));
+        }
+    }
+
+    // ---- promise 10, promise
+
+    private static final int[] HOLDABLE = {OPEN, GRACE, OVERDUE};
+
+    @Sentence(of = "Promise 10", says = {"Takes a promise to pay: the bill is PROMISED.",
+        "Returns the day of the end."})
+    static void promiseInEachState() {
+        for (int bill : HOLDABLE) {
+            CollectionsEngine x = Runs.states();
+            int events = x.events();
+            CHECKS.due(7, x.promise(bill, 4));
+            CHECKS.due(PROMISED, x.stateOf(bill));
+            CHECKS.due(7, x.waitsFor(bill));
+            CHECKS.due(events + 1, x.events());
+            CHECKS.due(3000 + 10 * bill + PROMISED, x.event(0));
             CHECKS.due(0, x.broken(bill));
+            CHECKS.due(100 + bill, x.left(bill));
         }
-        CHECKS.due(100 + 102 + 104, x.leftIn(0, CollectionsEngine.PROMISED));
-        CollectionsEngine one = new CollectionsEngine();
-        one.bill(0, 2);
-        CHECKS.due(1, one.promise(0, 1));
-        CHECKS.due(0, one.pass(1));
-        CHECKS.due(2, one.waitsFor(0));
     }
 
-    private static void promiseBrokenInEachState() {
-        CHECKS.begin("10 promise, broken");
+    @Sentence(of = "Promise 10", says = {"`bill`: a bill",
+        "Throws `IndexOutOfBoundsException` if there is no such bill"})
+    static void billsForPromises() {
+        CHECKS.takesEachBill((x, bill) -> x.promise(bill, 1));
+        for (int bill : new int[] {0, 29}) {
+            CHECKS.answers(1, () -> Runs.made(30), x -> x.promise(bill, 1));
+        }
+    }
+
+    @Sentence(of = "Promise 10", says = {"`days`: 1 to 30: until its end",
+        "Throws `IllegalArgumentException` if days is out of range"})
+    static void daysOfPromises() {
+        for (int bill : HOLDABLE) {
+            for (int days : new int[] {1, 2, 29, 30}) {
+                CollectionsEngine x = Runs.states();
+                CHECKS.due(3 + days, x.promise(bill, days));
+                Runs.upTo(x, 2 + days);
+                CHECKS.due(PROMISED, x.stateOf(bill));
+                x.pass(1);
+                CHECKS.due(bill, x.stateOf(bill));
+            }
+            for (int days : new int[] {0, 31, -1, MIN, MAX}) {
+                CHECKS.refused(Runs::states, Checks.NO_ARGUMENT, x -> x.promise(bill, days));
+            }
+        }
+    }
+
+    @Sentence(of = "Promise 10", says = "Throws `IllegalStateException` if the bill is not OPEN, in GRACE or OVERDUE,")
+    static void promisesForOtherStates() {
+        for (int bill : new int[] {TRYING, PROMISED, WRITTEN_OFF, PAID}) {
+            CHECKS.refused(Runs::states, Checks.NO_STATE, x -> x.promise(bill, 1));
+            CHECKS.refused(Runs::states, Checks.NO_STATE, x -> x.promise(bill, 30));
+        }
+        for (int bill : HOLDABLE) {
+            CHECKS.answers(4, Runs::states, x -> x.promise(bill, 1));
+        }
+    }
+
+    /** What a promise keeps of the state ahead stays kept, when another one is refused on a later day. */
+    @Sentence(of = "Promise 10", says = "Throws `IllegalStateException` if the bill is not OPEN, in GRACE or OVERDUE,")
+    static void promisesForPromisedBills() {
+        for (int bill : HOLDABLE) {
+            Checks.Maker held = () -> {
+                CollectionsEngine x = Runs.states();
+                x.promise(bill, 5);
+                x.pass(2);
+                return x;
+            };
+            CHECKS.answers(PROMISED, held, x -> x.stateOf(bill));
+            CHECKS.refused(held, Checks.NO_STATE, x -> x.promise(bill, 1));
+            CHECKS.refused(held, Checks.NO_STATE, x -> x.promise(bill, 30));
+            CHECKS.refused(held, Checks.NO_ARGUMENT, x -> x.promise(bill, 31));
+            CHECKS.refused(held, Checks.NO_STATE, x -> x.outcome(bill, SUCCESS));
+            CHECKS.refused(held, Checks.NO_STATE, x -> x.pay(bill, 101 + bill));
+        }
+    }
+
+    /** On day 7, a Monday, behind two broken promises, taken in the states of bills as {@link Runs#states} has them. */
+    private static CollectionsEngine promisedTwice(int bill) {
         CollectionsEngine x = Runs.states();
-        x.promise(CollectionsEngine.OPEN, 30);
-        x.promise(CollectionsEngine.GRACE, 30);
-        x.promise(CollectionsEngine.OVERDUE, 30);
-        x.setTimes(3, 3);
-        x.addHoliday(35);
-        int tries = x.pass(29);
-        CHECKS.due(CollectionsEngine.PROMISED, x.stateOf(CollectionsEngine.GRACE));
-        CHECKS.due(CollectionsEngine.PROMISED, x.stateOf(CollectionsEngine.OVERDUE));
-        CHECKS.due(CollectionsEngine.PROMISED, x.stateOf(CollectionsEngine.OPEN));
-        CHECKS.due(true, tries > 0);
+        x.promise(bill, 3);
+        x.pass(3);
+        x.promise(bill, 1);
         x.pass(1);
-        CHECKS.due(CollectionsEngine.OPEN, x.stateOf(CollectionsEngine.OPEN));
-        CHECKS.due(36, x.waitsFor(CollectionsEngine.OPEN));
-        CHECKS.due(CollectionsEngine.GRACE, x.stateOf(CollectionsEngine.GRACE));
-        CHECKS.due(91, x.waitsFor(CollectionsEngine.GRACE));
-        CHECKS.due(CollectionsEngine.OVERDUE, x.stateOf(CollectionsEngine.OVERDUE));
-        CHECKS.due(123, x.waitsFor(CollectionsEngine.OVERDUE));
-        CHECKS.due(1, x.broken(CollectionsEngine.OPEN));
-        CHECKS.due(1, x.broken(CollectionsEngine.GRACE));
-        CHECKS.due(1, x.broken(CollectionsEngine.OVERDUE));
-        CHECKS.due(33033, x.event(0));
-        CHECKS.due(33022, x.event(1));
-        CHECKS.due(33000, x.event(2));
+        return x;
     }
 
-    private static void promiseKept() {
-        CHECKS.begin("10 promise, kept");
-        CollectionsEngine x = new CollectionsEngine();
-        x.bill(0, 9);
-        x.promise(0, 5);
-        x.pass(4);
-        x.pay(0, 9);
-        x.pass(10);
-        CHECKS.due(0, x.broken(0));
-        CHECKS.due(CollectionsEngine.PAID, x.stateOf(0));
-        CHECKS.due(0, x.tries(0));
-    }
-
-    private static void twoPromises() {
-        CHECKS.begin("10 promise, two of them");
-        CollectionsEngine x = new CollectionsEngine();
-        x.setWeekday(5, true);
-        x.setWeekday(6, true);
-        x.bill(0, 9);
-        x.bill(0, 9);
-        x.promise(0, 1);
-        x.pass(1);
-        CHECKS.due(3, x.promise(0, 2));
-        x.pass(2);
-        CHECKS.due(2, x.broken(0));
-        CHECKS.due(CollectionsEngine.OPEN, x.stateOf(0));
-        CHECKS.refused(x, Checks.NO_STATE, () -> x.promise(0, 1));
-        x.pass(1);
-        x.outcome(0, CollectionsEngine.BLOCKED);
-        CHECKS.refused(x, Checks.NO_STATE, () -> x.promise(0, 1));
-        x.pass(10);
-        CHECKS.due(CollectionsEngine.OVERDUE, x.stateOf(0));
-        CHECKS.refused(x, Checks.NO_STATE, () -> x.promise(0, 1));
-        CHECKS.due(CollectionsEngine.GRACE, x.stateOf(1));
-        CHECKS.due(17, x.promise(1, 3));
-    }
-
-    private static void promiseRefused() {
-        CHECKS.begin("10 promise, refused");
-        CollectionsEngine x = Runs.states();
-        for (int bill : new int[] {-1, 7, 30, MIN, MAX}) {
-            CHECKS.refused(x, Checks.NO_INDEX, () -> x.promise(bill, 1));
-            CHECKS.refused(x, Checks.NO_INDEX, () -> x.promise(bill, 0));
+    @Sentence(of = "Promise 10", says = "or two promises were taken for it")
+    static void twoPromises() {
+        for (int bill : HOLDABLE) {
+            CHECKS.answers(bill, () -> promisedTwice(bill), x -> x.stateOf(bill));
+            CHECKS.answers(2, () -> promisedTwice(bill), x -> x.broken(bill));
+            CHECKS.refused(() -> promisedTwice(bill), Checks.NO_STATE, x -> x.promise(bill, 1));
+            CHECKS.refused(() -> promisedTwice(bill), Checks.NO_STATE, x -> x.promise(bill, 30));
+            int other = bill == OPEN ? GRACE : OPEN;
+            CHECKS.answers(8, () -> promisedTwice(bill), x -> x.promise(other, 1));
         }
-        for (int days : new int[] {0, -1, 31, MIN, MAX}) {
-            CHECKS.refused(x, Checks.NO_ARGUMENT, () -> x.promise(CollectionsEngine.OPEN, days));
-            CHECKS.refused(x, Checks.NO_ARGUMENT, () -> x.promise(CollectionsEngine.PAID, days));
-        }
-        int[] others = {CollectionsEngine.TRYING, CollectionsEngine.PROMISED, CollectionsEngine.WRITTEN_OFF,
-            CollectionsEngine.PAID};
-        for (int bill : others) {
-            CHECKS.refused(x, Checks.NO_STATE, () -> x.promise(bill, 1));
-        }
-        x.promise(CollectionsEngine.OPEN, 1);
-        x.pass(1);
-        CHECKS.due(34, x.promise(CollectionsEngine.OPEN, 30));
     }
 
-    private static void pass() {
-        CHECKS.begin("11 pass");
-        CollectionsEngine x = new CollectionsEngine();
-        CHECKS.due(0, x.pass(60));
-        CHECKS.due(60, x.today());
-        CHECKS.due(0, x.pass(1));
-        CHECKS.due(61, x.today());
-        x.bill(4, 50);
-        x.bill(4, 60);
-        CHECKS.due(10, x.pass(60));
-        CHECKS.due(CollectionsEngine.WRITTEN_OFF, x.stateOf(0));
-        CHECKS.due(110, x.writtenOff());
-        CHECKS.due(5, x.tries(1));
-        CHECKS.due(CollectionsEngine.NONE, x.waitsFor(1));
-        int events = x.events();
-        CHECKS.due(0, x.pass(60));
-        CHECKS.due(events, x.events());
-        CHECKS.due(110, x.leftIn(4, CollectionsEngine.WRITTEN_OFF));
+    /** Each state of a bill behind its second promise, which was taken while it was OPEN. */
+    @Sentence(of = "Promise 10", says = "or two promises were taken for it")
+    static void twoPromisesStayTwo() {
+        Checks.Maker grace = () -> {
+            CollectionsEngine x = promisedTwice(OPEN);
+            x.pass(1);
+            x.outcome(OPEN, BLOCKED);
+            return x;
+        };
+        CHECKS.answers(GRACE, grace, x -> x.stateOf(OPEN));
+        CHECKS.refused(grace, Checks.NO_STATE, x -> x.promise(OPEN, 1));
+        Checks.Maker overdue = () -> Runs.upTo(grace.make(), 18);
+        CHECKS.answers(OVERDUE, overdue, x -> x.stateOf(OPEN));
+        CHECKS.refused(overdue, Checks.NO_STATE, x -> x.promise(OPEN, 1));
     }
 
-    private static void passGivesErrorToTheUnanswered() {
-        CHECKS.begin("11 pass, unanswered tries");
-        CollectionsEngine x = Runs.tried(2);
-        x.setTimes(7, 8);
-        x.outcome(0, CollectionsEngine.BLOCKED);
+    @Sentence(of = "Promise 10", says = "or two promises were taken for it")
+    static void refusedPromisesAreNotTaken() {
+        CollectionsEngine x = Runs.made(1);
+        CHECKS.due(Checks.NO_ARGUMENT.getName(), Checks.answer(x, each -> each.promise(0, 31)));
+        CHECKS.due(Checks.NO_ARGUMENT.getName(), Checks.answer(x, each -> each.promise(0, 0)));
+        CHECKS.due(5, x.promise(0, 5));
+        CHECKS.due(Checks.NO_STATE.getName(), Checks.answer(x, each -> each.promise(0, 5)));
+        x.pass(5);
+        CHECKS.due(OPEN, x.stateOf(0));
+        CHECKS.due(6, x.promise(0, 1));
+    }
+
+    // ---- promise 11, pass
+
+    @Sentence(of = "Promise 11", says = {"Lets days pass.", "`days`: 1 to 60",
+        "Throws `IllegalArgumentException` if days is out of range"})
+    static void daysThatPass() {
+        for (int days : new int[] {1, 2, 59, 60}) {
+            CHECKS.answers(0, CollectionsEngine::new, x -> x.pass(days));
+            CollectionsEngine x = new CollectionsEngine();
+            x.pass(days);
+            CHECKS.due(days, x.today());
+            x.pass(days);
+            CHECKS.due(2 * days, x.today());
+        }
+        for (int days : new int[] {0, 61, -1, MIN, MAX}) {
+            CHECKS.refused(CollectionsEngine::new, Checks.NO_ARGUMENT, x -> x.pass(days));
+            CHECKS.refused(Runs::states, Checks.NO_ARGUMENT, x -> x.pass(days));
+        }
+    }
+
+    @Sentence(of = "Promise 11", says = "Lets days pass.")
+    static void daysPassOneByOne() {
+        for (int days : new int[] {2, 7, 59, 60}) {
+            CollectionsEngine atOnce = Runs.states();
+            CollectionsEngine oneByOne = Runs.states();
+            int tries = 0;
+            for (int i = 0; i < days; i++) {
+                tries += oneByOne.pass(1);
+            }
+            CHECKS.due(tries, atOnce.pass(days));
+            CHECKS.due(oneByOne.events(), atOnce.events());
+            for (int back : Checks.range(0, oneByOne.events() - 1)) {
+                CHECKS.due(oneByOne.event(back), atOnce.event(back));
+            }
+        }
+    }
+
+    @Sentence(of = "Promise 11", says = "Returns how often a bill became TRYING in them.")
+    static void countOfTries() {
+        CHECKS.answers(0, CollectionsEngine::new, x -> x.pass(60));
+        CHECKS.answers(1, () -> Runs.made(1), x -> x.pass(1));
+        CHECKS.answers(30, () -> Runs.made(30), x -> x.pass(1));
+        CHECKS.answers(4, () -> Runs.made(1), x -> x.pass(6));
+        CHECKS.answers(5, () -> Runs.made(1), x -> x.pass(7));
+        CHECKS.answers(5, () -> Runs.made(1), x -> x.pass(60));
+        CHECKS.answers(150, () -> Runs.made(30), x -> x.pass(60));
+        CHECKS.answers(0, () -> Runs.inGrace(60, 1), x -> x.pass(60));
+        CHECKS.answers(1, Runs::states, x -> x.pass(1));
+        CHECKS.answers(3, Runs::states, x -> x.pass(5));
+        CollectionsEngine x = Runs.made(1);
         CHECKS.due(1, x.pass(1));
-        CHECKS.due(1, x.failures(1, CollectionsEngine.ERROR));
-        CHECKS.due(2011, x.event(0));
-        CHECKS.due(1010, x.event(1));
-        x.clearGaps(CollectionsEngine.ERROR);
-        CHECKS.due(0, x.pass(1));
-        CHECKS.due(2012, x.event(0));
-        CHECKS.due(9, x.waitsFor(1));
-        CHECKS.due(0, x.pass(5));
-        CHECKS.due(8003, x.event(0));
-        CHECKS.due(16, x.waitsFor(0));
-        x.pass(8);
-        CHECKS.due(16005, x.event(0));
-        CHECKS.due(9013, x.event(1));
-    }
-
-    /** On one day the unanswered tries come first, and then each bill is looked at once. */
-    private static void passInOrder() {
-        CHECKS.begin("11 pass, in order");
-        CollectionsEngine x = new CollectionsEngine();
-        x.bill(0, 1);
-        x.promise(0, 2);
-        x.bill(0, 1);
-        x.bill(0, 1);
-        CHECKS.due(2, x.pass(1));
-        x.outcome(1, CollectionsEngine.BLOCKED);
-        x.bill(0, 1);
-        x.promise(1, 1);
-        CHECKS.due(2, x.pass(1));
-        CHECKS.due(2031, x.event(0));
-        CHECKS.due(2021, x.event(1));
-        CHECKS.due(2012, x.event(2));
-        CHECKS.due(2000, x.event(3));
-        CHECKS.due(1020, x.event(4));
-        CHECKS.due(1014, x.event(5));
-        CHECKS.due(3, x.waitsFor(0));
-        CHECKS.due(12, x.waitsFor(1));
-    }
-
-    private static void passRefused() {
-        CHECKS.begin("11 pass, refused");
-        CollectionsEngine x = Runs.states();
-        for (int days : new int[] {0, -1, 61, MIN, MAX}) {
-            CHECKS.refused(x, Checks.NO_ARGUMENT, () -> x.pass(days));
-        }
+        x.outcome(0, NO_MONEY);
+        CHECKS.due(0, x.pass(2));
+        CHECKS.due(1, x.pass(1));
+        CHECKS.due(2, x.tries(0));
     }
 }

@@ -1,15 +1,20 @@
 import java.io.IOException;
+import java.lang.reflect.InvocationTargetException;
+import java.lang.reflect.Method;
+import java.lang.reflect.Modifier;
 import java.nio.file.Files;
 import java.nio.file.Path;
+import java.util.Arrays;
+import java.util.List;
 import java.util.regex.Matcher;
 import java.util.regex.Pattern;
 
-/** The rules of LANGUAGE.md that a look at the program's text can tell. */
+/** The rules of LANGUAGE.md that a look at the program's text can tell, and that no call throws by itself. */
 public final class LanguageTest {
     private static final String[] RULED_OUT = {
         "^\\s*import\\b", "^\\s*package\\b", "->", "::", "\\b\\w+Exact\\(", "\\b(try|catch|finally)\\b",
-        "\\bsynchronized\\b", "\\bassert\\b", "\\bSystem\\.(?!arraycopy)", "\\bvar\\b", "\\bObject\\b", "\\bvolatile\\b",
-        "\\b(equals|hashCode|toString)\\(", "\\bwhile\\s*\\(\\s*true", "for\\s*\\(\\s*;\\s*;",
+        "\\bsynchronized\\b", "\\bassert\\b", "\\bSystem\\.(?!arraycopy)", "\\bvar\\b", "\\bObject\\b",
+        "\\bvolatile\\b", "\\b(equals|hashCode|toString)\\(", "\\bwhile\\s*\\(\\s*true", "for\\s*\\(\\s*;\\s*;",
         "\\bMath\\.(?!(max|min|abs|floorMod|floorDiv)\\()", "\\bInteger\\.(?!(bitCount|compare|max|min)\\()",
         "^\\s*static\\s*\\{", "\\b(float|double)\\b",
     };
@@ -17,7 +22,10 @@ public final class LanguageTest {
     private static final Pattern WRITTEN_THROW = Pattern.compile(
         " new (IllegalState|IllegalArgument|IndexOutOfBounds)Exception\\((\"[^\"]*\")?\\);");
 
-    public static void main(String[] args) throws IOException {
+    private static final int[] ARGUMENTS = {Integer.MIN_VALUE, -1, 0, 1, 4, 6, 7, 29, 30, 60, 399, 400, 2400060,
+        Integer.MAX_VALUE};
+
+    public static void main(String[] args) throws IOException, IllegalAccessException {
         Checks checks = new Checks();
         String program = Files.readString(Path.of("src/main/java/CollectionsEngine.java"));
         for (int i = 0; i < program.length(); i++) {
@@ -35,6 +43,7 @@ public final class LanguageTest {
             checks.due(true, WRITTEN_THROW.matcher(thrown.group(1)).matches());
         }
         methodsAreShort(checks, code);
+        noCallThrowsByItself(checks);
         checks.end();
     }
 
@@ -44,6 +53,41 @@ public final class LanguageTest {
             String text = method.group();
             checks.begin(text.substring(0, text.indexOf('\n')));
             checks.due(true, text.lines().count() <= 60);
+        }
+    }
+
+    /** Rule 7 holds behind the 512th call too, where the answers are free: here on day 2400000, and from there on. */
+    private static void noCallThrowsByItself(Checks checks) throws IllegalAccessException {
+        CollectionsEngine late = Runs.made(29);
+        for (int call = 0; call < 40000; call++) {
+            late.pass(60);
+        }
+        for (int round = 0; round < 3; round++) {
+            for (Method method : CollectionsEngine.class.getDeclaredMethods()) {
+                if (Modifier.isPublic(method.getModifiers())) {
+                    callWithAll(checks, late, method);
+                }
+            }
+        }
+    }
+
+    private static void callWithAll(Checks checks, CollectionsEngine engine, Method method)
+            throws IllegalAccessException {
+        checks.begin(method.getName());
+        int parameters = method.getParameterCount();
+        boolean hasFlag = parameters == 2 && method.getParameterTypes()[1] == boolean.class;
+        for (int first : ARGUMENTS) {
+            for (int second : ARGUMENTS) {
+                Object[] arguments = {first, hasFlag ? (Object) (second > 0) : (Object) second};
+                try {
+                    method.invoke(engine, Arrays.copyOf(arguments, parameters));
+                    checks.due(true, true);
+                } catch (InvocationTargetException thrown) {
+                    Class<?> thrownClass = thrown.getCause().getClass();
+                    checks.due(true, List.of(Checks.NO_INDEX, Checks.NO_ARGUMENT, Checks.NO_STATE)
+                        .contains(thrownClass));
+                }
+            }
         }
     }
 }

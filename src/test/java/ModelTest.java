@@ -9,16 +9,23 @@ import java.util.Random;
 /** Long runs of mixed calls, each answer compared with the model's; the seeds are fixed. */
 public final class ModelTest {
     private static final int RUNS = 600;
-    private static final int CALLS = 512;
+    private static final int CALLS_OF_AN_OBJECT = 512;
+    private static final int CALLS_BEFORE_ALL_IS_ASKED = 300;
     private static final int[] ODD = {Integer.MIN_VALUE, -2, -1, 0, 5, 7, 8, 30, 31, 61, 91, 10000, 1000001,
         Integer.MAX_VALUE};
+    private static final List<String> ASKING = List.of("stateOf", "left", "tries", "failures", "waitsFor", "broken",
+        "stateAt", "service", "leftIn", "event", "billed", "paid", "writtenOff", "broughtBack", "events", "bills",
+        "today");
     private static final Checks CHECKS = new Checks();
     private static final List<Method> METHODS = methods();
+
+    private record Step(Method method, Object[] arguments) { }
 
     private final Random random;
     private final int longestPass;
     private final CollectionsEngine engine = new CollectionsEngine();
     private final Model model = new Model();
+    private final List<Step> steps = new ArrayList<>();
 
     private ModelTest(int seed) {
         random = new Random(seed);
@@ -28,11 +35,14 @@ public final class ModelTest {
     public static void main(String[] args) throws IllegalAccessException {
         for (int seed = 0; seed < RUNS; seed++) {
             ModelTest run = new ModelTest(seed);
-            for (int call = 0; call < CALLS; call++) {
+            for (int call = 0; call < CALLS_OF_AN_OBJECT; call++) {
+                if (call == CALLS_BEFORE_ALL_IS_ASKED) {
+                    CHECKS.begin("seed " + seed + " ahead of call " + call);
+                    run.askAll();
+                }
                 CHECKS.begin("seed " + seed + " call " + call);
                 run.callAny();
             }
-            run.askAll();
         }
         CHECKS.end();
     }
@@ -52,7 +62,7 @@ public final class ModelTest {
     private void callAny() throws IllegalAccessException {
         String name = switch (random.nextInt(12)) {
             case 0, 1 -> "pass";
-            case 2 -> engine.today() < 20 || random.nextInt(4) == 0 ? "bill" : "outcome";
+            case 2 -> model.today() < 20 || random.nextInt(4) == 0 ? "bill" : "outcome";
             case 3, 4, 5 -> "outcome";
             case 6 -> "promise";
             case 7 -> random.nextInt(3) == 0 ? "pay" : "stateAt";
@@ -65,14 +75,16 @@ public final class ModelTest {
             boolean isFlag = method.getParameterTypes()[i] == boolean.class;
             arguments[i] = isFlag ? (Object) random.nextBoolean() : (Object) argument(name, i);
         }
-        compare(method, arguments);
+        Step step = new Step(method, arguments);
+        steps.add(step);
+        compare(engine, step);
     }
 
     private int argument(String name, int place) {
         if (random.nextInt(40) == 0) {
             return ODD[random.nextInt(ODD.length)];
         }
-        int today = engine.today();
+        int today = model.today();
         if (place == 0) {
             return switch (name) {
                 case "setWeekday" -> random.nextInt(7);
@@ -84,7 +96,7 @@ public final class ModelTest {
                 case "pass" -> 1 + random.nextInt(longestPass);
                 case "isCharging" -> random.nextInt(today + 70);
                 case "event" -> random.nextInt(450);
-                default -> random.nextInt(engine.bills() + 1);
+                default -> random.nextInt(model.bills() + 1);
             };
         }
         return switch (name) {
@@ -101,43 +113,61 @@ public final class ModelTest {
 
     /** A bill that is TRYING, if there is one. */
     private int tried() {
-        int bills = engine.bills();
+        int bills = model.bills();
         int first = random.nextInt(bills + 1);
         for (int i = 0; i < bills; i++) {
             int bill = (first + i) % bills;
-            if (engine.stateOf(bill) == CollectionsEngine.TRYING) {
+            if (model.stateOf(bill) == CollectionsEngine.TRYING) {
                 return bill;
             }
         }
         return first;
     }
 
+    /** Of objects that were brought to the same place, as there is more to ask than one of them has calls for. */
     private void askAll() throws IllegalAccessException {
-        for (Method method : METHODS) {
-            String name = method.getName();
-            boolean isAsking = List.of("stateOf", "left", "tries", "failures", "waitsFor", "broken", "stateAt",
-                "service", "leftIn", "event", "billed", "paid", "writtenOff", "broughtBack", "events", "bills", "today")
-                .contains(name);
-            if (!isAsking) {
-                continue;
+        CollectionsEngine asked = engine;
+        int callsLeft = 0;
+        for (Step question : questions()) {
+            if (callsLeft == 0) {
+                asked = broughtHere();
+                callsLeft = CALLS_OF_AN_OBJECT - steps.size();
             }
-            CHECKS.begin("at the end: " + name);
-            int parameters = method.getParameterCount();
-            for (int a = 0; a < (parameters == 0 ? 1 : name.equals("event") ? 402 : 31); a++) {
-                for (int b = 0; b < (parameters < 2 ? 1 : name.equals("stateAt") ? 100 : 8); b++) {
-                    compare(method, Arrays.copyOf(new Object[] {a, b}, parameters));
-                }
-            }
+            callsLeft--;
+            compare(asked, question);
         }
     }
 
-    private void compare(Method method, Object[] arguments) throws IllegalAccessException {
+    private CollectionsEngine broughtHere() throws IllegalAccessException {
+        CollectionsEngine made = new CollectionsEngine();
+        for (Step step : steps) {
+            answer(step.method(), made, step.arguments());
+        }
+        return made;
+    }
+
+    private static List<Step> questions() {
+        List<Step> found = new ArrayList<>();
+        for (Method method : METHODS) {
+            String name = method.getName();
+            int parameters = method.getParameterCount();
+            int firsts = !ASKING.contains(name) ? 0 : parameters == 0 ? 1 : name.equals("event") ? 402 : 31;
+            int seconds = parameters < 2 ? 1 : name.equals("stateAt") ? 100 : 8;
+            for (int first = 0; first < firsts; first++) {
+                for (int second = 0; second < seconds; second++) {
+                    found.add(new Step(method, Arrays.copyOf(new Object[] {first, second}, parameters)));
+                }
+            }
+        }
+        return found;
+    }
+
+    private void compare(CollectionsEngine asked, Step step) throws IllegalAccessException {
+        Method method = step.method();
+        String call = method.getName() + Arrays.toString(step.arguments()) + " ";
         try {
             Method due = Model.class.getMethod(method.getName(), method.getParameterTypes());
-            Object want = answer(due, model, arguments);
-            Object got = answer(method, engine, arguments);
-            CHECKS.due(method.getName() + Arrays.toString(arguments) + " " + want,
-                method.getName() + Arrays.toString(arguments) + " " + got);
+            CHECKS.due(call + answer(due, model, step.arguments()), call + answer(method, asked, step.arguments()));
         } catch (NoSuchMethodException missing) {
             CHECKS.tell("the model has no " + method.getName());
         }
