@@ -1,9 +1,11 @@
 import java.io.IOException;
+import java.lang.reflect.Field;
 import java.lang.reflect.InvocationTargetException;
 import java.lang.reflect.Method;
 import java.lang.reflect.Modifier;
 import java.nio.file.Files;
 import java.nio.file.Path;
+import java.util.ArrayList;
 import java.util.Arrays;
 import java.util.List;
 import java.util.regex.Matcher;
@@ -22,6 +24,8 @@ public final class LanguageTest {
     private static final Pattern WRITTEN_THROW = Pattern.compile(
         " new (IllegalState|IllegalArgument|IndexOutOfBounds)Exception\\((\"[^\"]*\")?\\);");
 
+    private static final List<Class<?>> CONSTANT_TYPES = List.of(int.class, long.class, boolean.class, char.class,
+        String.class, int[].class, long[].class, char[].class, byte[].class);
     private static final int[] ARGUMENTS = {Integer.MIN_VALUE, -1, 0, 1, 4, 6, 7, 29, 30, 60, 399, 400, 2400060,
         Integer.MAX_VALUE};
 
@@ -43,6 +47,7 @@ public final class LanguageTest {
             checks.due(true, WRITTEN_THROW.matcher(thrown.group(1)).matches());
         }
         methodsAreShort(checks, code);
+        classesAreSmall(checks);
         noCallThrowsByItself(checks);
         checks.end();
     }
@@ -53,6 +58,29 @@ public final class LanguageTest {
             String text = method.group();
             checks.begin(text.substring(0, text.indexOf('\n')));
             checks.due(true, text.lines().count() <= 60);
+        }
+    }
+
+    private static void classesAreSmall(Checks checks) {
+        List<Class<?>> classes = new ArrayList<>(List.of(CollectionsEngine.class.getDeclaredClasses()));
+        classes.add(CollectionsEngine.class);
+        checks.begin("classes");
+        checks.due(true, classes.size() <= 12);
+        for (Class<?> each : classes) {
+            int kept = 0;
+            for (Field field : each.getDeclaredFields()) {
+                checks.begin(each.getName() + "." + field.getName());
+                int modifiers = field.getModifiers();
+                boolean isConstant = Modifier.isFinal(modifiers) && CONSTANT_TYPES.contains(field.getType());
+                checks.due(true, !Modifier.isStatic(modifiers) || isConstant);
+                kept += Modifier.isStatic(modifiers) ? 0 : 1;
+            }
+            checks.begin(each.getName());
+            checks.due(true, kept <= 20);
+            for (Method method : each.getDeclaredMethods()) {
+                checks.begin(each.getName() + "." + method.getName());
+                checks.due(true, method.getParameterCount() <= 7);
+            }
         }
     }
 
